@@ -847,12 +847,12 @@ public final class CoinPairs {
         private static final int STACK = 100;
         private static final int BOUND = 1000000;
 
-        final int[] code = new int[MAX_TEXT];
-        int length;
-        int mayFrom;
-        int mayTo;
-        int wearsFrom;
-        int wearsTo;
+        private final int[] code = new int[MAX_TEXT];
+        private int length;
+        private int mayFrom;
+        private int mayTo;
+        private int wearsFrom;
+        private int wearsTo;
         private final int[] stack = new int[STACK + 2];
 
         Laws() {
@@ -889,8 +889,25 @@ public final class CoinPairs {
             }
         }
 
-        /** Both sides of an if are reckoned: neither can go wrong, so only the choice tells. */
-        int reckon(int from, int to, int[] facts) {
+        int codeSoFar() {
+            return length;
+        }
+
+        /** The code from a place on is the law may from now on. */
+        void closeMay(int from) {
+            mayFrom = from;
+            mayTo = length;
+        }
+
+        void closeWears(int from) {
+            wearsFrom = from;
+            wearsTo = length;
+        }
+
+        /** May tells 1 if it holds, else 0. Both sides of an if are reckoned: only the choice tells. */
+        int reckon(boolean may, int[] facts) {
+            int from = may ? mayFrom : wearsFrom;
+            int to = may ? mayTo : wearsTo;
             int top = 0;
             for (int i = from; i < to && i < MAX_TEXT && top < STACK; i++) {
                 int op = code[i];
@@ -1121,24 +1138,22 @@ public final class CoinPairs {
         private boolean readMay() {
             advance();
             inWears = false;
-            int from = read.laws.length;
+            int from = read.laws.codeSoFar();
             if (!takeSign(':') || !readTruth(0)) {
                 return false;
             }
-            read.laws.mayFrom = from;
-            read.laws.mayTo = read.laws.length;
+            read.laws.closeMay(from);
             return true;
         }
 
         private boolean readWears() {
             advance();
             inWears = true;
-            int from = read.laws.length;
+            int from = read.laws.codeSoFar();
             if (!takeSign(':') || !readSum(0)) {
                 return false;
             }
-            read.laws.wearsFrom = from;
-            read.laws.wearsTo = read.laws.length;
+            read.laws.closeWears(from);
             return true;
         }
 
@@ -1536,8 +1551,7 @@ public final class CoinPairs {
             if (r < 0) {
                 return r;
             }
-            Laws laws = valley.laws;
-            return Math.max(0, Math.min(MOST_WORN, laws.reckon(laws.wearsFrom, laws.wearsTo, facts)));
+            return Math.max(0, Math.min(MOST_WORN, valley.laws.reckon(false, facts)));
         }
 
         /** Leaves the facts as they are on the road that it tells. */
@@ -1552,7 +1566,7 @@ public final class CoinPairs {
             for (int r = 0; r < valley.roads; r++) {
                 if (valley.joins(r, from, to)) {
                     facts[Laws.LONG] = valley.roadLong[r];
-                    if (valley.laws.reckon(valley.laws.mayFrom, valley.laws.mayTo, facts) != 0) {
+                    if (valley.laws.reckon(true, facts) != 0) {
                         return r;
                     }
                 }
@@ -1567,7 +1581,7 @@ public final class CoinPairs {
                 if (valley.hasPerson(q) && !now.feuding(p, q)) {
                     face(p, q, c, from, now.hour);
                     facts[Laws.LONG] = valley.roadLong[r];
-                    if (valley.laws.reckon(valley.laws.mayFrom, valley.laws.mayTo, facts) != 0) {
+                    if (valley.laws.reckon(true, facts) != 0) {
                         return true;
                     }
                 }
@@ -1683,10 +1697,11 @@ public final class CoinPairs {
         private void learnStep(int c, int from, int to, boolean rimsToo) {
             int step = from * MAX_PLACES + to;
             int hour = carriers.now.hour;
+            boolean joined = carriers.valley.joined(from, to);
             many[step] = 0;
             for (int k = 0; k < PAIRS; k++) {
                 int wear = NONE;
-                if (carriers.valley.hasPerson(OTHER_ONE[k])) {
+                if (joined && carriers.valley.hasPerson(OTHER_ONE[k])) {
                     wear = rimsToo
                         ? carriers.wearFrom(LESSER_ONE[k], OTHER_ONE[k], c, from, to, hour)
                         : carriers.roadTaken(LESSER_ONE[k], OTHER_ONE[k], c, from, to, hour);
@@ -1727,7 +1742,7 @@ public final class CoinPairs {
             return false;
         }
 
-        /** The least deed that brings the coin nearer to the place that was measured; NONE only if it is there. */
+        /** The least deed that brings the coin nearer to the place that was measured: there is one, unless it is there. */
         int firstDeed(int c, int from) {
             for (int k = 0; k < PAIRS; k++) {
                 for (int to = 0; to < places(); to++) {
@@ -1736,7 +1751,7 @@ public final class CoinPairs {
                     }
                 }
             }
-            return NONE;
+            return FIRST_CARRYING + from;
         }
 
         long rowsOf(int from, int to, int n) {
@@ -1878,7 +1893,7 @@ public final class CoinPairs {
             if (set == 0) {
                 return 0;
             }
-            int p = Integer.numberOfTrailingZeros(set);
+            int p = leastIn(set);
             int rest = set & ~(1 << p);
             int found = most[rest];
             for (int q = p + 1; q < valley.people; q++) {
@@ -1887,6 +1902,14 @@ public final class CoinPairs {
                 }
             }
             return found;
+        }
+
+        private int leastIn(int set) {
+            int p = 0;
+            while (p < valley.people - 1 && !isIn(set, p)) {
+                p++;
+            }
+            return p;
         }
 
         private int firstPartner(int left, int p, int weight) {

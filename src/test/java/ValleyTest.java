@@ -21,6 +21,7 @@ public final class ValleyTest {
         why();
         worn();
         laws();
+        longLaws();
         severalRoads();
         bearers();
         DUE.end();
@@ -372,6 +373,36 @@ public final class ValleyTest {
             + "coin at 0 weight 0 worth 1;coin at 1 weight 0 worth 1;wears:if far = 99 then 1 else if far = 103 then 2 else 3 end end;");
         DUE.is("no way to it is 99", x.worn(0, 1, 0, 1), 1);
         DUE.is("from its own place", x.worn(0, 1, 1, 0), 2);
+    }
+
+    /** True, false, true and so on the deeper it goes, with as much as can wait for it at each depth. */
+    private static String deepTruth(int depth) {
+        if (depth == 0) {
+            return "1=2";
+        }
+        return "1=2 or 1=1 and 3=1+2*if " + deepTruth(depth - 1) + " then 0 else 1 end";
+    }
+
+    private static void longLaws() {
+        for (int depth = 0; depth <= 6; depth++) {
+            DUE.is("a truth " + depth + " deep", mayBy(deepTruth(depth)), depth % 2 == 0 ? 4 : 0);
+        }
+        String head = "valley places 2 hour 0;road 0 1 long 4;person at 0 strong 2;person at 0 strong 7;"
+            + "coin at 0 weight 1 worth 1;wears:5";
+        StringBuilder text = new StringBuilder(head);
+        while (text.length() + 5 <= 900) {
+            text.append("-1+1");
+        }
+        text.append(';');
+        while (text.length() < 900) {
+            text.append(' ');
+        }
+        CoinPairs x = Due.of(text.toString());
+        DUE.is("900 bytes", x.worn(0, 1, 0, 1), 5);
+        x.image(0);
+        Due.valley(x, "valley places 1 hour 0;");
+        x.restore(0);
+        DUE.is("900 bytes, restored", x.carry(0, 1, 0, 1), 5);
     }
 
     private static void severalRoads() {
