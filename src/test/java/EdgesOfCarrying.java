@@ -397,6 +397,10 @@ final class EdgesOfCarrying {
             () -> t.is("worn", Due.of(roads + "may:strong>long;").worn(1, 2, 0, 1), 3));
         t.edge(10, first, "the last one", () -> t.is("worn", Due.of(roads + "may:long<2;").worn(0, 1, 0, 1), 1));
         t.edge(10, first, "none of them", () -> t.is("why", Due.of(roads + "may:long=5;").why(0, 1, 0, 1), 4));
+        t.edge(10, first, "none of nine", () -> t.is("why", Due.of(Told.head(2, 0) + Told.roads(0, 1, 8).repeat(9) + Told.alike(2, 9)
+            + Told.coins(0, 0, 0) + "may:long=5;").why(0, 1, 0, 1), 4));
+        t.edge(10, first, "the last one of nine", () -> t.is("worn", Due.of(Told.head(2, 0) + Told.roads(0, 1, 8).repeat(8)
+            + Told.roads(0, 1, 5) + Told.alike(2, 9) + Told.coins(0, 0, 0) + "may:long=5;").worn(0, 1, 0, 1), 5));
         t.edge(10, first, "its own length is what is long in wears",
             () -> t.is("worn", Due.of(roads + "may:long<8;wears:long+1;").worn(0, 1, 0, 1), 4));
         t.edge(10, first, "also without laws, whichever is shorter", () -> t.is("worn", Due.of(roads).worn(0, 1, 0, 1), 8));
@@ -412,6 +416,14 @@ final class EdgesOfCarrying {
             Due.of(Told.head(2, 0) + Told.roads(0, 1, 1) + Told.alike(1, 9) + Told.coins(0, 0, 0)).bearers(0, 1), 0));
         t.edge(11, many, "all of eight", () -> t.is("bearers(0, 1)",
             Due.of(Told.head(2, 0) + Told.roads(0, 1, 1, 0, 1, 2) + Told.alike(8, 9) + Told.coins(0, 18, 0)).bearers(0, 1), 28));
+        t.edge(11, many, "each pair of eight, all others having quarrelled", () -> {
+            for (int p = 0; p < 8; p++) {
+                for (int q = p + 1; q < 8; q++) {
+                    t.is("bearers, " + p + " and " + q, Due.of(Told.head(2, 0) + Told.roads(0, 1, 1) + Told.friends(8, p, q)
+                        + Told.coins(0, 0, 0)).bearers(0, 1), 1);
+                }
+            }
+        });
         t.edge(11, many, "but for those who have quarrelled, and who are too weak", () -> {
             CoinPairs x = four();
             t.is("bearers(0, 1)", x.bearers(0, 1), 2);

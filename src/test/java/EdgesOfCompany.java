@@ -116,6 +116,8 @@ final class EdgesOfCompany {
         });
         t.edge(25, first, "the least person is alone where it must be", () -> partners(strong(0, 5, 5), 10, -1, 2, 1));
         t.edge(25, first, "the next one", () -> partners(friends(6, 0, 5, 1, 3, 1, 4, 2, 3, 2, 4), 0, 5, 3, 4, 1, 2, 0));
+        t.edge(25, first, "the next one, whom the least person would have liked as well",
+            () -> partners(friends(5, 0, 1, 0, 2, 2, 3, 3, 4), 0, 1, 0, 3, 2, -1));
         t.edge(25, first, "then the next one alone, for the one behind it", () -> partners(friends(5, 0, 1, 2, 4, 3, 4), 0, 1, 0, 4, -1, 2));
     }
 
@@ -208,6 +210,11 @@ final class EdgesOfCompany {
             + Told.roads(0, 1, 1, 1, 2, 1, 2, 3, 1)), 0, 3, 1, 2));
         t.edge(27, fewest, "fewer places are ahead of a lesser set", () -> guarded(Due.of(Told.head(6, 0)
             + Told.roads(0, 1, 1, 0, 2, 1, 1, 4, 1, 2, 4, 1, 4, 5, 1)), 0, 5, 1, 16));
+        t.edge(27, fewest, "nine roads", () -> {
+            CoinPairs x = Due.of(Told.head(4, 0) + Told.roads(0, 1, 1).repeat(8) + Told.roads(2, 1, 1));
+            guarded(x, 0, 2, 1, 2);
+            guarded(x, 0, 3, 0, 0);
+        });
         t.edge(27, fewest, "roads, not who may carry along them", () -> guarded(Due.of(Told.head(3, 0)
             + Told.roads(0, 1, 1, 1, 2, 1) + "may:1=2;"), 0, 2, 1, 2));
         t.edge(27, fewest, "a way there and back by five roads", () -> guarded(Due.of(Told.head(6, 0)
@@ -485,6 +492,10 @@ final class EdgesOfCompany {
         t.edge(33, fewest, "two who have quarrelled", () -> t.is("peace()", friends(2).peace(), 1));
         t.edge(33, fewest, "one of eight is alone", () -> t.is("peace()",
             friends(8, 0, 1, 1, 2, 2, 3, 3, 4, 4, 5, 5, 6).peace(), 1));
+        t.edge(33, fewest, "two and two, one between the others", () -> {
+            t.is("0 and 2, 1 and 3", friends(4, 0, 2, 1, 3).peace(), 1);
+            t.is("0 and 3, 1 and 2", friends(4, 0, 3, 1, 2).peace(), 1);
+        });
         t.edge(33, fewest, "four pairs of friends", () -> t.is("peace()", friends(8, 0, 1, 2, 3, 4, 5, 6, 7).peace(), 3));
         t.edge(33, fewest, "all of eight have quarrelled: the most that can be", () -> t.is("peace()", friends(8).peace(), 7));
     }

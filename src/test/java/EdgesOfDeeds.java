@@ -327,6 +327,7 @@ final class EdgesOfDeeds {
         t.edge(16, where, "no coins any more, where there were some", () -> {
             CoinPairs x = star();
             x.carry(0, 7, 3, 5);
+            Due.valley(x, Told.head(6, 0) + Told.coins(5, 0, 0).repeat(4));
             Due.valley(x, Told.head(1, 0));
             Due.tray(x, 0, 15);
             t.is("judge(0, 2)", x.judge(0, 2), 0);
@@ -461,6 +462,19 @@ final class EdgesOfDeeds {
             t.is("perform", x.perform(2), 1);
             t.is("coin(3, 0)", x.coin(3, 0), 5);
             t.is("coin(3, 3)", x.coin(3, 3), 5);
+            t.is("count(6)", x.count(6), 1);
+        });
+        t.edge(16, carry, "the last two people of eight", () -> {
+            CoinPairs x = starWith(167, 16735);
+            t.is("perform", x.perform(2), 2);
+            t.is("coin(3, 0)", x.coin(3, 0), 5);
+        });
+        t.edge(16, carry, "worn by 0: carried all the same", () -> {
+            CoinPairs x = Due.of(STAR + "wears:0;");
+            Due.tray(x, 2, 10101);
+            t.is("judge(2, 2)", x.judge(2, 2), 1);
+            t.is("perform", x.perform(2), 1);
+            t.is("coin(0, 0)", x.coin(0, 0), 1);
             t.is("count(6)", x.count(6), 1);
         });
         t.edge(16, carry, "no such person, coin, place", () -> {

@@ -38,6 +38,13 @@ final class EdgesOfGames {
             + "may:far=0 or long=6;");
     }
 
+    /** From 0 to 1, on to 2 or 3, from both to 4, from 2 and from 4 to 5, where it ends; never back. */
+    private static CoinPairs forked() {
+        return Due.of(Told.head(6, 0) + Told.roads(0, 1, 1, 1, 2, 2, 1, 3, 3, 2, 4, 4, 3, 4, 5, 2, 5, 6, 4, 5, 7) + TWO
+            + Told.coins(0, 0, 0)
+            + "may:far=0 or far=2 and long>1 or far=6 and long>2 or far=8 and long>3 or far=14 and long>5;");
+    }
+
     // ---- promises 39 and 40
 
     private void forces() {
@@ -66,6 +73,16 @@ final class EdgesOfGames {
         t.edge(39, turns, "some time by then: the other one may carry it on from there", () ->
             t.is("forces(0, 1)", row().forces(0, 1), 1));
         t.edge(39, turns, "whatever the other one does: it carries it back", () -> t.is("forces(0, 2)", row().forces(0, 2), -1));
+        t.edge(39, turns, "5: over a place from which it can be carried to the place or elsewhere", () -> {
+            t.is("forces(0, 4)", forked().forces(0, 4), 5);
+            t.is("best(0, 4)", forked().best(0, 4), 1);
+        });
+        t.edge(39, turns, "over place 0", () -> {
+            CoinPairs x = Due.of(Told.head(3, 0) + Told.roads(1, 0, 5, 0, 2, 6) + Told.people(1, 9, 1, 9) + Told.coins(1, 0, 0)
+                + "may:far=0 or far=10 and long=6;");
+            t.is("forces(0, 2)", x.forces(0, 2), 3);
+            t.is("best(0, 2)", x.best(0, 2), 0);
+        });
         t.edge(39, turns, "whatever the other one does: it carries it elsewhere", () -> {
             CoinPairs x = Due.of(Told.head(4, 0) + Told.roads(0, 1, 5, 1, 2, 6, 1, 3, 7) + TWO + Told.coins(0, 0, 0)
                 + "may:far=0 or far=10 and long>5;");
@@ -80,6 +97,13 @@ final class EdgesOfGames {
             CoinPairs x = row();
             x.quarrel(0, 1);
             t.is("forces(0, 1)", x.forces(0, 1), -1);
+        });
+        t.edge(39, never, "a place from which it can't go on is not the place", () -> {
+            CoinPairs x = Due.of(Told.head(4, 0) + Told.roads(0, 2, 5) + TWO + Told.coins(0, 0, 0, 2, 0, 0) + "may:far=0;");
+            t.is("forces(0, 1)", x.forces(0, 1), -1);
+            t.is("forces(0, 3)", x.forces(0, 3), -1);
+            t.is("forces(1, 1)", x.forces(1, 1), -1);
+            t.is("forces(1, 0)", x.forces(1, 0), -1);
         });
         t.edge(39, never, "where it can come, but only if the other one lets it", () -> {
             CoinPairs x = row();
@@ -191,6 +215,8 @@ final class EdgesOfGames {
             + Told.roads(0, 1, 2, 1, 2, 1, 0, 2, 4) + TWO + Told.coins(0, 0, 0)), 2, 18, 25, 2));
         t.edge(41, greatest, "one road is likelier than two", () -> likely(Due.of(Told.head(3, 0)
             + Told.roads(0, 1, 2, 1, 2, 2, 0, 2, 3) + TWO + Told.coins(0, 0, 0)), 2, 7, 10, 1));
+        t.edge(41, greatest, "the last of nine roads", () -> likely(Due.of(Told.head(2, 0) + Told.roads(0, 1, 9).repeat(8)
+            + Told.roads(1, 0, 2) + TWO + Told.coins(0, 0, 0)), 1, 4, 5, 1));
         t.edge(41, greatest, "five roads are likelier than one", () -> likely(Due.of(Told.head(6, 0)
             + Told.roads(0, 1, 1, 1, 2, 1, 2, 3, 1, 3, 4, 1, 4, 5, 1, 0, 5, 5) + TWO + Told.coins(0, 0, 0)), 5, 59049, 100000, 5));
         String which = "whichever of several that join two PLACES";
@@ -206,6 +232,11 @@ final class EdgesOfGames {
         String roads = Told.head(2, 0) + Told.roads(0, 1, 8, 0, 1, 3, 1, 0, 1);
         t.edge(41, may, "not the likeliest if nobody may by it",
             () -> likely(Due.of(roads + TWO + Told.coins(0, 0, 0) + "may:long>2;"), 1, 7, 10, 1));
+        t.edge(41, may, "not the likeliest if nobody may by it, all told the same way round", () -> {
+            likely(Due.of(Told.head(2, 0) + Told.roads(0, 1, 8, 0, 1, 3, 0, 1, 1) + TWO + Told.coins(0, 0, 0) + "may:long>2;"), 1, 7, 10, 1);
+            likely(Due.of(Told.head(2, 0) + Told.roads(1, 0, 8, 1, 0, 3, 1, 0, 1) + TWO + Told.coins(0, 0, 0) + "may:long>2;"), 1, 7, 10, 1);
+            likely(Due.of(Told.head(2, 0) + Told.roads(1, 0, 1) + TWO + Told.coins(0, 0, 0)), 1, 9, 10, 1);
+        });
         t.edge(41, may, "some two: others by another road", () -> likely(Due.of(roads + Told.people(0, 1, 0, 1, 0, 5)
             + Told.coins(0, 0, 0) + "may:strong=2 and long=3 or strong=6 and long=1;"), 1, 9, 10, 1));
         t.edge(41, may, "who have quarrelled may not", () -> {

@@ -227,6 +227,22 @@ final class EdgesOfRims {
             t.is("by place 2", with(FORK, 0, 6).who(1, 0, 0), 5);
             t.is("by both", with(FORK, 0, -1).who(1, 0, 0), 7);
             t.is("and then anyone", with(FORK, 0, 6).who(1, 0, 1), 7);
+            t.is("and then anyone, by place 1", with(FORK, 0, 5).who(1, 0, 1), 7);
+        });
+        t.edge(36, who, "from where it was then alone", () -> {
+            String text = Told.head(4, 0) + Told.roads(0, 2, 1, 1, 3, 2, 2, 3, 3) + Told.people(0, 1, 0, 2, 0, 4) + Told.coins(0, 0, 0)
+                + "may:far=0 and strong=3 or long=2 and strong=5 or long=3 and strong=3;";
+            t.is("i 1", with(text, 1, -1).who(1, 0, 1), 3);
+        });
+        t.edge(36, who, "two people, the last of two carryings", () -> t.is("i 1",
+            with(Told.head(2, 0) + Told.roads(0, 1, 1) + Told.alike(2, 1) + Told.coins(0, 0, 0), 1, 1).who(1, 0, 1), 3));
+        t.edge(36, who, "each pair of eight, all others having quarrelled", () -> {
+            for (int p = 0; p < 8; p++) {
+                for (int q = p + 1; q < 8; q++) {
+                    CoinPairs x = with(Told.head(2, 0) + Told.roads(0, 1, 1) + Told.friends(8, p, q) + Told.coins(0, 0, 0), -1, 1);
+                    t.is(p + " and " + q, x.who(1, 0, 1), 1 << p | 1 << q);
+                }
+            }
         });
         t.edge(36, who, "the last of eight", () -> t.is("i 7", with(CLOCK, 0, 0, 0, 0, 0, 0, 0, 4).who(1, 0, 7), 3));
         t.edge(36, who, "there are none", () -> {

@@ -16,6 +16,7 @@ final class EdgesOfTexts {
         e.feed();
         e.feedRefused();
         e.valley();
+        e.valleyTellsLess();
         e.valleyRefused();
         e.fault();
         e.linesOfATextLeftOut();
@@ -211,6 +212,15 @@ final class EdgesOfTexts {
             t.is("valley", Due.valley(x, HEAD), 1);
             t.is("count(10)", x.count(10), 1);
         });
+        t.edge(3, lines, "of each text for itself, also behind one with a fault", () -> {
+            CoinPairs x = new CoinPairs();
+            t.is("three", Due.valley(x, HEAD + PAIR), 3);
+            t.is("one", Due.valley(x, HEAD), 1);
+            t.is("a fault", Due.valley(x, HEAD + PAIR + "#"), -31);
+            t.is("count(10)", x.count(10), 1);
+            t.is("two", Due.valley(x, HEAD + "may:1=1;"), 2);
+            t.is("then count(10)", x.count(10), 2);
+        });
         t.edge(3, lines, "as many as 900 bytes have", () -> {
             String text = HEAD + PAIR + "quarrel 0 1;".repeat(69);
             t.is("its length", text.length(), 893);
@@ -272,6 +282,64 @@ final class EdgesOfTexts {
             t.is("far(0, 1)", x.far(0, 1), 3);
             t.is("no law may", x.why(0, 1, 1, 1), 4);
             t.is("no law wears", x.worn(0, 1, 0, 1), 3);
+        });
+    }
+
+    /** What a text told leaves nothing where a later one tells less. */
+    private void valleyTellsLess() {
+        String anew = "are THE VALLEY, COINS are WORN 0";
+        t.edge(3, anew, "laws told before are gone, also where they were longer", () -> {
+            CoinPairs x = new CoinPairs();
+            Due.valley(x, HEAD + "may:not 1=1;wears:1+2*3-4;");
+            Due.valley(x, HEAD + Told.roads(0, 1, 1) + PAIR + Told.coins(0, 0, 0) + "may:1=1;");
+            t.is("why", x.why(0, 1, 0, 1), 0);
+            t.is("worn", x.worn(0, 1, 0, 1), 1);
+        });
+        t.edge(3, anew, "roads told before are gone", () -> {
+            CoinPairs x = new CoinPairs();
+            Due.valley(x, Told.head(3, 0) + Told.roads(0, 1, 5, 0, 1, 1, 1, 2, 1));
+            Due.valley(x, Told.head(3, 0) + Told.roads(0, 1, 5) + PAIR + Told.coins(0, 0, 0) + "may:long<3;");
+            t.is("far(0, 1)", x.far(0, 1), 5);
+            t.is("far(0, 2)", x.far(0, 2), 99);
+            t.is("why", x.why(0, 1, 0, 1), 4);
+            t.is("chance", x.chance(0, 1, 0), 0);
+        });
+        t.edge(3, anew, "ways along roads told before are gone", () -> {
+            CoinPairs x = new CoinPairs();
+            Due.valley(x, Told.head(3, 0) + Told.roads(0, 1, 5, 1, 2, 1) + PAIR + Told.coins(0, 0, 0));
+            t.is("guards", x.guards(0, 2, 0), 1);
+            t.is("by", x.by(0, 2), 2);
+            Due.valley(x, Told.head(3, 0) + Told.roads(0, 1, 5) + PAIR + Told.coins(0, 0, 0));
+            t.is("then guards", x.guards(0, 2, 0), 0);
+            t.is("then by", x.by(0, 2), -1);
+            t.is("then reach", x.reach(0), 3);
+        });
+        t.edge(3, anew, "places told before are gone", () -> {
+            CoinPairs x = new CoinPairs();
+            Due.tray(x, 0, 1);
+            Due.valley(x, Told.head(6, 0) + Told.roads(0, 2, 1) + Told.alike(3, 1) + Told.coins(0, 0, 0));
+            t.is("wornFirst", x.wornFirst(0, 0, 0), 10102);
+            Due.valley(x, Told.head(2, 0) + Told.roads(0, 1, 1) + Told.alike(3, 1) + Told.quarrels(0, 1) + Told.coins(0, 0, 0)
+                + "may:1=1;");
+            t.is("then wornFirst", x.wornFirst(0, 0, 0), 10201);
+            x.quarrel(1, 2);
+            t.is("then who", x.who(0, 0, 0), 5);
+            t.is("then way", x.way(0, 1, 0), 10201);
+            t.is("then rows", x.rows(0, 1, 1), 1);
+        });
+        t.edge(3, anew, "people, quarrels and coins told before are gone", () -> {
+            CoinPairs x = new CoinPairs();
+            Due.valley(x, Told.head(2, 0) + Told.alike(8, 9) + Told.quarrels(0, 1, 6, 7) + Told.coins(1, 1, 50).repeat(4));
+            Due.valley(x, Told.head(2, 0) + Told.alike(3, 1) + Told.coins(0, 0, 3));
+            t.is("person(0, 2)", x.person(0, 2), 0);
+            t.is("person(3, 0)", x.person(3, 0), -2);
+            t.is("pairs", x.pairs(0), 1);
+            t.is("lifters", x.lifters(4, 0), -1);
+            t.is("talk", x.talk(0, 8), 7);
+            t.is("camps", x.camps(1), 7);
+            t.is("coin(1, 0)", x.coin(1, 0), -2);
+            t.is("pays", x.pays(1, 0, 0), 0);
+            t.is("pays", x.pays(0, 53, 2), -1);
         });
     }
 
@@ -599,6 +667,7 @@ final class EdgesOfTexts {
         t.edge(3, atom, "lesser in may", () -> {
             truthFault("lesser=1;", 2, 0);
             truthFault("1=if 1=1 then lesser else 1 end;", 2, 14);
+            t.fault(HEAD + "wears:lesser;may:lesser=1;", 2, AT + 13 + 4);
         });
         t.edge(3, atom, "lesser in wears, also in the truth of an if",
             () -> t.is("worn", EdgesOfCarrying.worn("if lesser = 2 then lesser + 1 else 9 end"), 3));
@@ -658,6 +727,9 @@ final class EdgesOfTexts {
             t.is("1=2 and 1=1 or 1=1", EdgesOfCarrying.why("1=2 and 1=1 or 1=1"), 0);
             t.is("[1=1 or 1=1] and 1=2", EdgesOfCarrying.why("[1=1 or 1=1] and 1=2"), 4);
             t.is("not [1=2 and 1=2]", EdgesOfCarrying.why("not [1=2 and 1=2]"), 0);
+            t.is("1=1 and not 1=2", EdgesOfCarrying.why("1=1 and not 1=2"), 0);
+            t.is("1=2 and not 1=2", EdgesOfCarrying.why("1=2 and not 1=2"), 4);
+            t.is("1=2 or not 1=2", EdgesOfCarrying.why("1=2 or not 1=2"), 0);
         });
         t.edge(3, truth, "a unit may begin with ( or if", () -> {
             t.is("(1)=1", EdgesOfCarrying.why("(1)=1"), 0);
@@ -729,7 +801,30 @@ final class EdgesOfTexts {
             t.lines("valley places 002 hour 009;", 1);
         });
         t.edge(3, tokens, "4 digits", () -> t.fault("valley places 0002 hour 1;", 1, 14));
+        t.edge(3, tokens, "a word with another first or last letter", () -> {
+            otherLetters("", "valley places 2 hour 1;");
+            otherLetters(HEAD, "road 0 1 long 1;");
+            otherLetters(HEAD, "person at 0 strong 1;");
+            otherLetters(HEAD + PAIR, "quarrel 0 1;");
+            otherLetters(HEAD, "coin at 0 weight 1 worth 1;");
+            otherLetters(HEAD, "may:not strong>weight and far<long or hour=1;");
+            otherLetters(HEAD, "wears:if 1=1 then lesser else 2 end;");
+        });
         t.edge(3, tokens, "a word longer than all that are known", () -> t.fault("valley" + "y".repeat(800), 2, 0));
+    }
+
+    /** Each word of a line is another one by its first or its last letter: it can't stand there. */
+    private void otherLetters(String head, String line) {
+        t.is("without another letter", Math.min(0, Due.valley(new CoinPairs(), head + line)), 0);
+        java.util.regex.Matcher word = java.util.regex.Pattern.compile("[a-z]+").matcher(line);
+        while (word.find()) {
+            StringBuilder first = new StringBuilder(line);
+            first.setCharAt(word.start(), 'z');
+            t.fault(head + first, 2, head.length() + word.start());
+            StringBuilder last = new StringBuilder(line);
+            last.setCharAt(word.end() - 1, 'z');
+            t.fault(head + last, 2, head.length() + word.start());
+        }
     }
 
     /** What each byte is by which a text can begin: nothing but a word can stand there, and but for valley no word. */

@@ -57,6 +57,8 @@ final class EdgesOfTrays {
             x.numbers(0, 0, 1);
             Due.valley(x, LINE + "wears:0;");
             t.is("worn by 0", x.wornBy(0, 0), 1);
+            Due.valley(x, LINE);
+            t.is("worn by 1, not by 0", x.wornBy(0, 0), 0);
         });
         t.edge(43, all, "in place of another one: all 0 again, also those beyond", () -> {
             CoinPairs x = new CoinPairs();

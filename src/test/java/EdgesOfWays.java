@@ -119,6 +119,19 @@ final class EdgesOfWays {
             t.is("perform", x.perform(0), 5);
             t.is("coin(0, 0)", x.coin(0, 0), 5);
         });
+        t.edge(20, ith, "by each pair of eight, all others having quarrelled", () -> {
+            for (int p = 0; p < 8; p++) {
+                for (int q = p + 1; q < 8; q++) {
+                    CoinPairs x = Due.of(LINE + Told.friends(8, p, q) + Told.coins(0, 0, 0));
+                    t.is("way(0, 1, 0)", x.way(0, 1, 0), 10001 + 1000 * p + 100 * q);
+                }
+            }
+        });
+        t.edge(20, ith, "to place 0", () -> {
+            CoinPairs x = Due.of(LINE + Told.alike(2, 3) + Told.coins(2, 0, 0));
+            t.is("way(0, 0, 0)", x.way(0, 0, 0), 10101);
+            t.is("way(0, 0, 1)", x.way(0, 0, 1), 10100);
+        });
         t.edge(20, ith, "the last coin, the last two people", () -> t.is("way(3, 1, 0)", Due.of(LINE + Told.friends(8, 6, 7)
             + Told.coins(0, 0, 0).repeat(4)).way(3, 1, 0), 16731));
         String none = "NONE: not so many, it can't;";
@@ -146,6 +159,11 @@ final class EdgesOfWays {
             t.is("0 and 2", x.way(0, 1, 0), 10201);
             x.quarrel(0, 2);
             t.is("1 and 2", x.way(0, 1, 0), 11201);
+        });
+        t.edge(20, first, "none but fewest: no lesser place that is as far", () -> {
+            CoinPairs x = Due.of(Told.head(3, 0) + Told.roads(0, 1, 1, 1, 2, 1, 2, 0, 1) + Told.alike(2, 1) + Told.coins(0, 0, 0));
+            t.is("way(0, 2, 0)", x.way(0, 2, 0), 10102);
+            t.is("way(0, 2, 1)", x.way(0, 2, 1), -1);
         });
         t.edge(20, first, "none but rows that go on to the end", () -> {
             CoinPairs x = Due.of(Told.head(4, 0) + Told.roads(0, 1, 1, 0, 2, 1, 2, 3, 1) + Told.alike(2, 1) + Told.coins(0, 0, 0));
@@ -192,6 +210,13 @@ final class EdgesOfWays {
             2187L * 377801998336L));
         t.edge(21, many, "several roads join two places: one row each pair", () -> t.is("rows(0, 1, 1)", Due.of(Told.head(2, 0)
             + Told.roads(0, 1, 1, 0, 1, 2, 1, 0, 3) + Told.alike(3, 1) + Told.coins(0, 0, 0)).rows(0, 1, 1), 3));
+        t.edge(21, many, "asked twice, and of another coin between", () -> {
+            CoinPairs x = Due.of(Told.head(3, 0) + Told.roads(0, 1, 1, 1, 2, 1) + Told.alike(3, 3) + Told.coins(0, 0, 0, 1, 0, 0));
+            t.is("rows(0, 2, 2)", x.rows(0, 2, 2), 9);
+            t.is("rows(1, 2, 1)", x.rows(1, 2, 1), 3);
+            t.is("rows(0, 2, 2)", x.rows(0, 2, 2), 9);
+            t.is("rows(0, 1, 0)", x.rows(0, 1, 0), 0);
+        });
         t.edge(21, many, "it can't", () -> t.is("rows(0, 4, 8)", ring().rows(0, 4, 8), 0));
         t.edge(21, many, "nobody", () -> {
             CoinPairs x = Due.of(LINE + Told.coins(0, 0, 0));
@@ -307,6 +332,13 @@ final class EdgesOfWays {
     private void paysAway() {
         String away = "(COINS that are there now and not in the set are CARRIED away, by one CARRYING each; if one can't be, it can't be so).";
         t.edge(23, away, "one is carried away", () -> paid(purse(), 0, 5, 2, 2, 1, 3));
+        t.edge(23, away, "asked of one place and of another one", () -> {
+            CoinPairs x = purse();
+            paid(x, 0, 0, 1, 0, 0, 1);
+            paid(x, 1, 0, 1, 0, 0, 2);
+            paid(x, 0, 8, 1, 3, 1, 3);
+            paid(x, 2, 8, 0, 4, 0, 4);
+        });
         t.edge(23, away, "all four are", () -> {
             CoinPairs x = Due.of(LINE + Told.alike(2, 9) + Told.coins(0, 0, 9).repeat(4));
             paid(x, 0, 0, 4, 0, 0, 15);
