@@ -6,7 +6,7 @@ import java.util.Comparator;
 import java.util.List;
 import java.util.Random;
 
-/** No call ever throws, whatever its arguments; refused calls and questions change nothing. */
+/** No call ever throws, whatever its arguments; refused calls and questions change nothing; objects share nothing. */
 public final class AnyArgumentsTest {
     private static final List<String> CHANGING = List.of("feed", "valley", "carry", "quarrel", "hour", "undo", "perform",
         "year", "numbers", "write", "lists", "image", "restore");
@@ -31,10 +31,51 @@ public final class AnyArgumentsTest {
                 one(due, x, calls.get(r.nextInt(calls.size())), r);
             }
         }
+        for (int seed = 0; seed < 40; seed++) {
+            apart(due, calls, seed);
+        }
         due.end();
     }
 
+    /** The same calls answer the same, also if another object is used between them. */
+    private static void apart(Due due, List<Method> calls, int seed) throws IllegalAccessException {
+        CoinPairs alone = new CoinPairs();
+        CoinPairs beside = new CoinPairs();
+        CoinPairs other = new CoinPairs();
+        Random r = new Random(seed);
+        Random others = new Random(-1 - seed);
+        for (int i = 0; i < 250; i++) {
+            if (i % 60 == 0) {
+                String text = Naive.random(r).text;
+                due.is("valley", Due.valley(beside, text), Due.valley(alone, text));
+                Due.valley(other, Naive.random(others).text);
+            }
+            Method call = calls.get(r.nextInt(calls.size()));
+            Object[] values = values(call, r);
+            long answer = answer(due, alone, call, values);
+            Method call2 = calls.get(others.nextInt(calls.size()));
+            answer(due, other, call2, values(call2, others));
+            due.is(call.getName() + java.util.Arrays.toString(values) + " beside another object",
+                answer(due, beside, call, values), answer);
+        }
+    }
+
     private static void one(Due due, CoinPairs x, Method call, Random r) throws IllegalAccessException {
+        Object[] values = values(call, r);
+        if (call.getName().equals("feed") && r.nextInt(3) == 0) {
+            Due.feed(x, x.count(9) < 500 ? Naive.random(r).text : "");
+            x.valley(x.count(9));
+        }
+        String before = all(x);
+        long answer = answer(due, x, call, values);
+        boolean refused = answer < -1 && !call.getName().equals("write");
+        boolean fault = call.getName().equals("valley") && answer < -30;
+        if (!fault && (refused || !CHANGING.contains(call.getName()))) {
+            due.holds(call.getName() + java.util.Arrays.toString(values) + " changed nothing", before.equals(all(x)));
+        }
+    }
+
+    private static Object[] values(Method call, Random r) {
         Class<?>[] types = call.getParameterTypes();
         Object[] values = new Object[types.length];
         for (int i = 0; i < types.length; i++) {
@@ -45,21 +86,15 @@ public final class AnyArgumentsTest {
                 values[i] = (int) v;
             }
         }
-        if (call.getName().equals("feed") && r.nextInt(3) == 0) {
-            Due.feed(x, x.count(9) < 500 ? Naive.random(r).text : "");
-            x.valley(x.count(9));
-        }
-        String before = all(x);
-        long answer = 0;
+        return values;
+    }
+
+    private static long answer(Due due, CoinPairs x, Method call, Object[] values) throws IllegalAccessException {
         try {
-            answer = ((Number) call.invoke(x, values)).longValue();
+            return ((Number) call.invoke(x, values)).longValue();
         } catch (InvocationTargetException e) {
             due.is(call.getName() + java.util.Arrays.toString(values) + " threw " + e.getCause(), 1, 0);
-        }
-        boolean refused = answer < -1 && !call.getName().equals("write");
-        boolean fault = call.getName().equals("valley") && answer < -30;
-        if (!fault && (refused || !CHANGING.contains(call.getName()))) {
-            due.holds(call.getName() + java.util.Arrays.toString(values) + " changed nothing", before.equals(all(x)));
+            return 0;
         }
     }
 

@@ -9,6 +9,8 @@ import java.util.Set;
 import java.util.TreeSet;
 import java.util.regex.Matcher;
 import java.util.regex.Pattern;
+import java.util.stream.Collectors;
+import java.util.stream.Stream;
 
 /** What of LANGUAGE.md can be seen from the text and the members alone. */
 public final class LanguageTest {
@@ -19,6 +21,7 @@ public final class LanguageTest {
         String code = source.replaceAll("(?s)/\\*.*?\\*/", "").replaceAll("//.*", "").replaceAll("\"[^\"]*\"", "\"\"");
         words(code);
         face();
+        faceAsTold(Files.readString(Path.of("../shared/DOC.md")));
         nested();
         lengths(code);
         DUE.end();
@@ -58,6 +61,40 @@ public final class LanguageTest {
         DUE.holds("a public one", Modifier.isPublic(made[0].getModifiers()));
     }
 
+    /** The members that can be seen are those that the document's part 'The public face' tells, of the same types. */
+    private static void faceAsTold(String document) {
+        int from = document.indexOf("\n## The public face\n");
+        String told = document.substring(from, document.indexOf("\n## Terms\n"));
+        Set<String> due = new TreeSet<>();
+        Matcher m = Pattern.compile("public (?:static final )?(.*?);").matcher(told);
+        while (m.find()) {
+            due.add(m.group(1).replaceAll("(\\w+) \\w+(?=[,)])", "$1"));
+        }
+        Set<String> seen = new TreeSet<>();
+        for (Constructor<?> c : CoinPairs.class.getConstructors()) {
+            seen.add(c.getName() + types(c.getParameterTypes()));
+        }
+        for (Method method : CoinPairs.class.getDeclaredMethods()) {
+            if (Modifier.isPublic(method.getModifiers())) {
+                seen.add(method.getReturnType() + " " + method.getName() + types(method.getParameterTypes()));
+            }
+        }
+        for (Field f : CoinPairs.class.getFields()) {
+            seen.add(f.getType() + " " + f.getName() + " = " + CoinPairs.NONE);
+        }
+        DUE.is("members that are told", due.size(), 49);
+        for (String one : due) {
+            DUE.holds(one + " is there", seen.contains(one));
+        }
+        for (String one : seen) {
+            DUE.holds(one + " is told", due.contains(one));
+        }
+    }
+
+    private static String types(Class<?>[] all) {
+        return Stream.of(all).map(Class::getName).collect(Collectors.joining(", ", "(", ")"));
+    }
+
     private static void nested() {
         Class<?>[] inside = CoinPairs.class.getDeclaredClasses();
         DUE.holds("some twelve classes", inside.length + 1 <= 12);
@@ -71,6 +108,8 @@ public final class LanguageTest {
             }
             DUE.holds(c.getName() + " has some twenty fields", fields <= 20);
             for (Method m : c.getDeclaredMethods()) {
+                DUE.holds(m.getName() + " isn't named as a call", Stream.of(CoinPairs.class.getMethods())
+                    .noneMatch(call -> call.getName().equals(m.getName())));
                 DUE.holds(m.getName() + " has seven parameters at most", m.getParameterCount() <= 7);
             }
         }
